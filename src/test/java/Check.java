@@ -23,12 +23,15 @@ final class Check {
         due(call, got ? 1 : 0, want ? 1 : 0);
     }
 
-    /** The class must be the very one: the machine's own exceptions are classes below those of the document. */
+    /**
+     * The class must be the very one, since the machine's own exceptions are classes below those of the document;
+     * and PatronHall itself must have thrown it, not the library.
+     */
     void dueThrow(String call, Class<? extends RuntimeException> want, Runnable doing) {
         try {
             doing.run();
         } catch (RuntimeException e) {
-            if (e.getClass() != want) {
+            if (e.getClass() != want || !e.getStackTrace()[0].getClassName().equals("PatronHall")) {
                 say(call + " threw " + e + ", due is " + want.getSimpleName());
             }
             return;
