@@ -1,4 +1,5 @@
 import java.util.Arrays;
+import java.util.Map;
 
 /** Counts the answers that are not due, and brings halls into the states that the tests start from. */
 final class Check {
@@ -10,6 +11,14 @@ final class Check {
     static final int NEXT = 5;
     static final int OPEN = 6;
     static final int NONE = PatronHall.NONE;
+
+    static final int[] COMMANDS = {PUT, SWAP, REMOVE};
+    static final int[] READS = {GET, COUNT, NEXT};
+    static final int[] NO_CLIENTS = {-1, 8, Integer.MIN_VALUE, Integer.MAX_VALUE};
+
+    private static final Class<IndexOutOfBoundsException> NO_INDEX = IndexOutOfBoundsException.class;
+    private static final Class<IllegalArgumentException> NO_ARGUMENT = IllegalArgumentException.class;
+    private static final Class<IllegalStateException> NO_STATE = IllegalStateException.class;
 
     private int wrong = 0;
 
@@ -27,7 +36,7 @@ final class Check {
      * The class must be the very one, since the machine's own exceptions are classes below those of the document;
      * and PatronHall itself must have thrown it, not the library.
      */
-    void dueThrow(String call, Class<? extends RuntimeException> want, Runnable doing) {
+    private void dueThrow(String call, Class<? extends RuntimeException> want, Runnable doing) {
         try {
             doing.run();
         } catch (RuntimeException e) {
@@ -40,15 +49,49 @@ final class Check {
     }
 
     void dueNoIndex(String call, Runnable doing) {
-        dueThrow(call, IndexOutOfBoundsException.class, doing);
+        dueThrow(call, NO_INDEX, doing);
     }
 
     void dueNoArgument(String call, Runnable doing) {
-        dueThrow(call, IllegalArgumentException.class, doing);
+        dueThrow(call, NO_ARGUMENT, doing);
     }
 
     void dueNoState(String call, Runnable doing) {
-        dueThrow(call, IllegalStateException.class, doing);
+        dueThrow(call, NO_STATE, doing);
+    }
+
+    /** What is thrown is due, and behind it all other calls show what they show without the refused call. */
+    private void dueRefused(String call, Class<? extends RuntimeException> want, Scene before, Scene refused) {
+        PatronHall hall = before.hall();
+        dueThrow(call, want, () -> refused.play(hall));
+        dueSame(call, before, before.then(refused.attempted()));
+    }
+
+    void refusedForIndex(String call, Scene before, Scene refused) {
+        dueRefused(call, NO_INDEX, before, refused);
+    }
+
+    void refusedForArgument(String call, Scene before, Scene refused) {
+        dueRefused(call, NO_ARGUMENT, before, refused);
+    }
+
+    void refusedForState(String call, Scene before, Scene refused) {
+        dueRefused(call, NO_STATE, before, refused);
+    }
+
+    /** All calls show the same behind both. */
+    void dueSame(String call, Scene want, Scene got) {
+        Map<String, String> wants = Picture.of(want);
+        Map<String, String> gots = Picture.of(got);
+        if (!wants.keySet().equals(gots.keySet())) {
+            say("behind " + call + " the history is not as long as is due");
+        }
+        for (Map.Entry<String, String> row : wants.entrySet()) {
+            String shown = gots.getOrDefault(row.getKey(), "nothing");
+            if (!row.getValue().equals(shown)) {
+                say("behind " + call + " " + row.getKey() + " shows " + shown + ", due is " + row.getValue());
+            }
+        }
     }
 
     /** The answers of client(client, 0), client(client, 1), .. as far as they are told. */
@@ -76,6 +119,23 @@ final class Check {
         }
     }
 
+    /** What the client asked last is these bytes and no more. */
+    void dueData(PatronHall hall, int client, int... wants) {
+        for (int i = 0; i < wants.length; i++) {
+            due("dataAt(" + client + ", " + i + ")", hall.dataAt(client, i), wants[i]);
+        }
+        dueNoIndex("dataAt(" + client + ", " + wants.length + ")", () -> hall.dataAt(client, wants.length));
+    }
+
+    /** The client's answer is these bytes and no more. */
+    void dueAnswer(PatronHall hall, int client, int... wants) {
+        due("answer(" + client + ")", hall.answer(client), wants.length);
+        for (int i = 0; i < wants.length; i++) {
+            due("answerAt(" + client + ", " + i + ")", hall.answerAt(client, i), wants[i]);
+        }
+        dueNoIndex("answerAt(" + client + ", " + wants.length + ")", () -> hall.answerAt(client, wants.length));
+    }
+
     void say(String fault) {
         wrong++;
         StackTraceElement[] trace = Thread.currentThread().getStackTrace();
@@ -93,10 +153,17 @@ final class Check {
         }
     }
 
-    /** A hall whose tape holds the bytes 1, 2, .., size. */
+    /** A hall whose tape holds the bytes 1, 2, .., size behind what it held. */
     static PatronHall fed(PatronHall hall, int size) {
-        for (int i = 1; i <= size; i++) {
-            hall.feed(i, 1);
+        int at = 1;
+        while (at <= size) {
+            int n = Math.min(8, size - at + 1);
+            long eight = 0;
+            for (int i = n - 1; i >= 0; i--) {
+                eight = eight << 8 | (at + i) & 0xff;
+            }
+            hall.feed(eight, n);
+            at += n;
         }
         return hall;
     }
@@ -105,11 +172,15 @@ final class Check {
         return fed(hall, kind == COUNT ? 2 : 1).ask(client, kind, 1, 0);
     }
 
-    /** The client's session is the place, its serial 1, its request number 2, and it is idle. */
+    /** For a new client: its session is the place, its serial 1, its request number 2, and it is idle. */
     static PatronHall withSession(PatronHall hall, int client, int place) {
         asked(hall, client, PUT);
         hall.reply(client, 1, 0, place);
-        hall.reply(client, 2, 0, place + 1);
+        hall.reply(client, 2, 0, place < 1000000 ? place + 1 : place);
         return hall;
+    }
+
+    static boolean isCommand(int kind) {
+        return kind == PUT || kind == SWAP || kind == REMOVE;
     }
 }

@@ -1,47 +1,101 @@
-/** Promise 2, and what the terms say of the tape. */
+import java.util.Arrays;
+
+/** Promise 2. */
 public final class FeedTest {
     private static final Check check = new Check();
 
     public static void main(String[] args) {
         lowestBytesComeFirst();
-        wrongLengths();
-        tapeHasAnEnd();
+        theyComeBehindTheTape();
+        howManyItHas();
+        nIsNot1To8();
+        refusedTheTapeStays();
+        moreThan240();
+        refusedItCanStillBeFilled();
+        wrongNOnAFullTape();
         check.end();
     }
 
+    /** "The n lowest bytes of eight .., the lowest first": no byte above them, for every n. */
     private static void lowestBytesComeFirst() {
-        PatronHall hall = new PatronHall();
-        check.due("feed of 8", hall.feed(0x8877665544332211L, 8), 8);
-        check.due("feed of 1", hall.feed(0xffffffffffffffffL, 1), 9);
-        check.due("feed of 2", hall.feed(0x7fff00L, 2), 11);
-        hall.ask(0, Check.GET, 11, 0);
-        int[] wants = {0x11, 0x22, 0x33, 0x44, 0x55, 0x66, 0x77, 0x88, 0xff, 0x00, 0xff};
-        for (int i = 0; i < wants.length; i++) {
-            check.due("dataAt(0, " + i + ")", hall.dataAt(0, i), wants[i]);
+        int[] bytes = {0x11, 0xff, 0x00, 0x80, 0x7f, 0x66, 0x01, 0xfe};
+        for (int n = 1; n <= 8; n++) {
+            PatronHall hall = new PatronHall();
+            hall.feed(0xfe01667f8000ff11L, n);
+            hall.ask(0, Check.GET, n, 0);
+            check.dueData(hall, 0, Arrays.copyOf(bytes, n));
         }
     }
 
-    private static void wrongLengths() {
+    /** "come behind the tape". */
+    private static void theyComeBehindTheTape() {
+        PatronHall hall = new PatronHall();
+        hall.feed(0x0201, 2);
+        hall.feed(0x050403, 3);
+        hall.feed(0xffff06, 1);
+        hall.ask(0, Check.GET, 6, 0);
+        check.dueData(hall, 0, 1, 2, 3, 4, 5, 6);
+    }
+
+    /** "how many it has". */
+    private static void howManyItHas() {
+        PatronHall hall = new PatronHall();
+        int size = 0;
+        for (int n = 1; n <= 8; n++) {
+            size += n;
+            check.due("feed of " + n, hall.feed(-1, n), size);
+            check.due("bytes on the tape", hall.count(5), size);
+        }
+    }
+
+    /** "IllegalArgumentException, when n is not 1 .. 8". */
+    private static void nIsNot1To8() {
+        check.due("n is 1", new PatronHall().feed(7, 1), 1);
+        check.due("n is 8", new PatronHall().feed(7, 8), 8);
+        for (int n : new int[] {0, 9, -1, -8, 16, Integer.MIN_VALUE, Integer.MAX_VALUE}) {
+            check.refusedForArgument("feed(7, " + n + ")", Scenes.NEW, hall -> hall.feed(7, n));
+            check.refusedForArgument("feed(7, " + n + ")", Scenes.BUSY_WITH_TAPE, hall -> hall.feed(7, n));
+        }
+    }
+
+    /** What is on the tape stays as it was, and the next bytes come behind it. */
+    private static void refusedTheTapeStays() {
         PatronHall hall = Check.fed(new PatronHall(), 3);
-        for (int n : new int[] {0, -1, 9, Integer.MIN_VALUE, Integer.MAX_VALUE}) {
-            check.dueNoArgument("feed(1, " + n + ")", () -> hall.feed(1, n));
+        for (int n : new int[] {0, 9}) {
+            check.dueNoArgument("feed(-1, " + n + ")", () -> hall.feed(-1, n));
         }
-        check.due("count(5)", hall.count(5), 3);
+        check.due("feed", hall.feed(4, 1), 4);
+        hall.ask(0, Check.GET, 4, 0);
+        check.dueData(hall, 0, 1, 2, 3, 4);
     }
 
-    private static void tapeHasAnEnd() {
-        PatronHall hall = new PatronHall();
-        for (int i = 1; i <= 29; i++) {
-            check.due("feed " + i, hall.feed(i, 8), 8 * i);
+    /** "IllegalStateException, when there would be more than 240": by one byte or by eight, for every n. */
+    private static void moreThan240() {
+        for (int n = 1; n <= 8; n++) {
+            int bytes = n;
+            check.due("feed of " + n + " to 239", Check.fed(new PatronHall(), 239 - n).feed(7, n), 239);
+            check.due("feed of " + n + " to 240", Check.fed(new PatronHall(), 240 - n).feed(7, n), 240);
+            for (int size : new int[] {241 - n, 240}) {
+                check.refusedForState("feed of " + n + " behind " + size,
+                        Scenes.BUSY.then(Scenes.fedWith(size)), hall -> hall.feed(7, bytes));
+            }
         }
-        check.due("feed to 233", hall.feed(1, 1), 233);
-        check.dueNoState("feed to 241", () -> hall.feed(1, 8));
-        check.due("count(5) after a refused feed", hall.count(5), 233);
-        check.due("feed to 240", hall.feed(1, 7), 240);
-        check.dueNoState("feed of 1 on a full tape", () -> hall.feed(1, 1));
-        check.dueNoArgument("feed of 9 on a full tape", () -> hall.feed(1, 9));
-        check.dueNoArgument("ask with a full tape", () -> hall.ask(0, Check.SWAP, 32, 100));
-        check.due("count(5) behind ask", hall.count(5), 0);
-        check.due("feed on the emptied tape", hall.feed(1, 8), 8);
+    }
+
+    /** A refused feed takes no room. */
+    private static void refusedItCanStillBeFilled() {
+        PatronHall hall = Check.fed(new PatronHall(), 236);
+        for (int n = 8; n >= 5; n--) {
+            int bytes = n;
+            check.dueNoState("feed of " + n, () -> hall.feed(7, bytes));
+            check.due("bytes on the tape", hall.count(5), 236);
+        }
+        check.due("feed of 4", hall.feed(7, 4), 240);
+    }
+
+    private static void wrongNOnAFullTape() {
+        for (int n : new int[] {0, 9, Integer.MIN_VALUE, Integer.MAX_VALUE}) {
+            check.refusedForArgument("feed(7, " + n + ")", Scenes.fedWith(240), hall -> hall.feed(7, n));
+        }
     }
 }

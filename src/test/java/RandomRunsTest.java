@@ -135,21 +135,12 @@ public final class RandomRunsTest {
 
     private boolean same(String call, IntSupplier real, IntSupplier due) {
         calls++;
-        String got = outcome(real);
-        String want = outcome(due);
+        String got = Picture.outcome(real);
+        String want = Picture.outcome(due);
         if (!got.equals(want)) {
             check.say("call " + calls + ": " + call + " answered " + got + ", due is " + want);
         }
         return got.equals(want);
-    }
-
-    /** By the exception's own class, so that one of the machine's never equals one of the document's. */
-    private static String outcome(IntSupplier call) {
-        try {
-            return String.valueOf(call.getAsInt());
-        } catch (RuntimeException e) {
-            return "throws." + e.getClass().getSimpleName();
-        }
     }
 
     private int odd(int ordinary) {

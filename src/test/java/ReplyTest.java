@@ -1,193 +1,150 @@
-/** Promise 5. */
+/** Promise 5; what a good reply does stands in TermsReplyTest. */
 public final class ReplyTest {
     private static final Check check = new Check();
 
     public static void main(String[] args) {
-        openLeadsToTheCommand();
-        doneIsTold();
-        anotherLeads();
-        nobodyLeads();
-        sessionIsLost();
-        serverIsBusy();
-        repliesForNothing();
-        fortyTriesAreAll();
-        lastTryOpens();
-        edgesOfValues();
-        wrongReplies();
+        codesAre0To3();
+        placesAre1To1000000();
+        answerHasAtMost134Bytes();
+        serverOrNone();
+        valueIs0For2And3();
+        tapeIsEmptyButFor0();
+        whetherItIsForWhatItWaitsFor();
+        noSuchClient();
+        noSuchClientComesFirst();
         check.end();
     }
 
-    private static void openLeadsToTheCommand() {
-        PatronHall hall = new PatronHall();
-        Check.fed(hall, 5).ask(2, Check.SWAP, 1, 2);
-        hall.tick(3);
-        Check.fed(hall, 9);
-        check.due("reply to OPEN", hall.reply(2, 1, 0, 44), true);
-        check.dueClient(hall, 2, 1, 0, 44, 1, 2, 2, 63, 1, 0);
-        check.dueRequest(hall, 0, 2, 0, 2, Check.SWAP, 44, 1, 5, 3);
-        check.dueHistory(hall, 0, 2, Check.SWAP, 0, Check.NONE, 0, Check.NONE);
-        check.due("OPEN's answer is not told", hall.answer(2), 0);
-        check.dueCounts(hall, 3, 1, 1, 2, 1, 0);
-        check.due("a late reply to OPEN", hall.reply(2, 1, 0, 45), false);
-        check.due("the session stays", hall.client(2, 2), 44);
+    private static String call(int code, int value, int size) {
+        return "reply of " + code + " and " + value + " with " + size + " bytes";
     }
 
-    private static void doneIsTold() {
-        PatronHall hall = Check.withSession(new PatronHall(), 3, 1);
-        Check.asked(hall, 3, Check.GET);
-        Check.fed(hall, 2);
-        check.due("reply", hall.reply(3, 3, 0, 1000000), true);
-        check.dueClient(hall, 3, 0, 0, 1, 1, 3, 1, Check.NONE, 0, 0);
-        check.dueHistory(hall, 1, 3, Check.GET, 2, 3, 1, 1000000);
-        check.due("answer", hall.answer(3), 2);
-        check.due("no alarm is left", hall.tick(1000), 0);
-    }
-
-    private static void anotherLeads() {
-        PatronHall hall = new PatronHall();
-        Check.asked(hall, 0, Check.PUT);
-        hall.tick(10);
-        check.due("reply", hall.reply(0, 1, 1, 6), true);
-        check.dueClient(hall, 0, 1, 6, Check.NONE, 0, 1, 2, 70, 1, 1);
-        check.dueRequest(hall, 0, 0, 6, 1, Check.OPEN, Check.NONE, 0, 0, 10);
-        check.due("the same server again", hall.reply(0, 1, 1, 6), true);
-        check.dueClient(hall, 0, 1, 6, Check.NONE, 0, 1, 3, 70, 1, 1);
-        check.due("server 0", hall.reply(0, 1, 1, 0), true);
-        check.dueClient(hall, 0, 1, 0, Check.NONE, 0, 1, 4, 70, 1, 1);
-        check.due("requests", hall.count(3), 4);
-    }
-
-    private static void nobodyLeads() {
-        PatronHall hall = new PatronHall();
-        Check.asked(hall, 0, Check.GET);
-        hall.reply(0, 1, 1, 5);
-        hall.tick(2);
-        check.due("reply", hall.reply(0, 1, 1, Check.NONE), true);
-        check.dueClient(hall, 0, 1, 6, Check.NONE, 0, 1, 2, 7, 0, 0);
-        check.due("nothing is requested yet", hall.count(3), 2);
-        check.due("reply again", hall.reply(0, 1, 1, Check.NONE), true);
-        check.dueClient(hall, 0, 1, 0, Check.NONE, 0, 1, 2, 7, 0, 0);
-        check.due("its alarm is one", hall.tick(5), 1);
-        check.dueRequest(hall, 0, 0, 0, 1, Check.GET, Check.NONE, 0, 1, 7);
-        check.dueClient(hall, 0, 1, 0, Check.NONE, 0, 1, 3, 67, 1, 0);
-    }
-
-    private static void sessionIsLost() {
-        for (int kind = Check.PUT; kind <= Check.NEXT; kind++) {
-            PatronHall hall = Check.withSession(new PatronHall(), 4, 8);
-            Check.asked(hall, 4, kind);
-            int serial = hall.client(4, 3);
-            check.due("reply", hall.reply(4, 3, 2, 0), true);
-            check.dueClient(hall, 4, 0, 0, Check.NONE, serial, 3, 1, Check.NONE, 0, 0);
-            check.dueHistory(hall, 1, 4, kind, 2, 3, 2, Check.NONE);
-        }
-        PatronHall hall = new PatronHall();
-        Check.asked(hall, 4, Check.PUT);
-        check.due("reply to OPEN", hall.reply(4, 1, 2, 0), true);
-        check.dueClient(hall, 4, 0, 0, Check.NONE, 0, 1, 1, Check.NONE, 0, 0);
-        check.dueHistory(hall, 0, 4, Check.PUT, 0, 1, 2, Check.NONE);
-    }
-
-    private static void serverIsBusy() {
-        PatronHall hall = new PatronHall();
-        Check.asked(hall, 0, Check.PUT);
-        hall.tick(59);
-        check.due("reply", hall.reply(0, 1, 3, 0), true);
-        check.dueClient(hall, 0, 1, 0, Check.NONE, 0, 1, 1, 79, 0, 1);
-        check.due("too early", hall.tick(19), 0);
-        check.due("in time", hall.tick(1), 1);
-        check.dueClient(hall, 0, 1, 0, Check.NONE, 0, 1, 2, 139, 1, 1);
-    }
-
-    private static void repliesForNothing() {
-        PatronHall hall = new PatronHall();
-        check.due("idle, number 0", hall.reply(0, 0, 0, 1), false);
-        Check.asked(hall, 0, Check.GET);
-        for (int request : new int[] {0, 2, -1, Integer.MIN_VALUE, Integer.MAX_VALUE}) {
-            Check.fed(hall, 1);
-            check.due("another number", hall.reply(0, request, 0, 1), false);
-            check.due("the tape is empty", hall.count(5), 0);
-            check.due("another number", hall.reply(0, request, 1, 3), false);
-            check.due("another number", hall.reply(0, request, 2, 0), false);
-            check.due("another number", hall.reply(0, request, 3, 0), false);
-        }
-        check.dueClient(hall, 0, 1, 0, Check.NONE, 0, 1, 1, 60, 1, 0);
-        check.due("the right number", hall.reply(0, 1, 0, 1), true);
-        check.due("idle again", hall.reply(0, 1, 2, 0), false);
-        check.due("idle again", hall.reply(0, 1, 1, 3), false);
-        check.due("idle again", hall.reply(0, 1, 3, 0), false);
-        check.dueClient(hall, 0, 0, 0, Check.NONE, 0, 1, 1, Check.NONE, 0, 0);
-        check.dueHistory(hall, 0, 0, Check.GET, 0, 1, 1, 1);
-    }
-
-    private static void fortyTriesAreAll() {
-        for (int kind : new int[] {Check.PUT, Check.GET}) {
-            boolean command = kind == Check.PUT;
-            PatronHall hall = Check.withSession(new PatronHall(), 0, 9);
-            Check.asked(hall, 0, kind);
-            for (int i = 2; i <= 40; i++) {
-                hall.reply(0, 3, 1, i % 7);
-            }
-            check.dueClient(hall, 0, 1, 5, 9, command ? 2 : 1, 3, 40, 60, 1, 0);
-            check.due("requests", hall.count(3), 42);
-            check.due("the reply that is too much", hall.reply(0, 3, 1, 2), true);
-            check.dueClient(hall, 0, 0, 2, command ? Check.NONE : 9, command ? 2 : 1, 3, 41, Check.NONE, 0, 0);
-            check.due("requests", hall.count(3), 42);
-            check.dueHistory(hall, 1, 0, kind, 2, 3, command ? 2 : 3, Check.NONE);
-            Check.asked(hall, 0, kind);
-            check.due("tries begin anew", hall.client(0, 5), 1);
+    /** By one who requests OPEN, one in a session, and those with other alarms. */
+    private static void taken(int code, int value, int size) {
+        for (int client = 1; client <= 4; client++) {
+            PatronHall hall = Scenes.BUSY.then(Scenes.fedWith(size)).hall();
+            int number = hall.client(client, 4);
+            check.due(call(code, value, size), hall.reply(client, number, code, value), true);
+            check.due("bytes on the tape", hall.count(5), 0);
         }
     }
 
-    /** Tries count on from OPEN to its command, so OPEN told at the 40th leaves none. */
-    private static void lastTryOpens() {
-        PatronHall hall = new PatronHall();
-        Check.asked(hall, 0, Check.PUT);
-        for (int i = 2; i <= 40; i++) {
-            hall.reply(0, 1, 1, 4);
-        }
-        check.due("reply to OPEN", hall.reply(0, 1, 0, 3), true);
-        check.dueClient(hall, 0, 0, 4, Check.NONE, 1, 2, 41, Check.NONE, 0, 0);
-        check.dueHistory(hall, 0, 0, Check.PUT, 0, 1, 2, Check.NONE);
-        check.due("requests", hall.count(3), 40);
-    }
-
-    private static void edgesOfValues() {
-        for (int[] edge : new int[][] {{0, 1, 0}, {0, 1000000, 134}, {1, Check.NONE, 0}, {1, 0, 0}, {1, 6, 0}, {2, 0, 0}, {3, 0, 0}}) {
-            PatronHall hall = new PatronHall();
-            Check.asked(hall, 7, Check.NEXT);
-            Check.fed(hall, edge[2]);
-            check.due("reply " + edge[0] + " " + edge[1], hall.reply(7, 1, edge[0], edge[1]), true);
-            check.due("the tape is empty", hall.count(5), 0);
-        }
-    }
-
-    private static void wrongReplies() {
-        int[][] faults = {
-            {0, 0, 0}, {0, 1000001, 0}, {0, -1, 0}, {0, Integer.MIN_VALUE, 0}, {0, 5, 135}, {0, 5, 240},
-            {1, 7, 0}, {1, -2, 0}, {1, 3, 1}, {1, Check.NONE, 1},
-            {2, 1, 0}, {2, -1, 0}, {2, 0, 1}, {3, 1, 0}, {3, -1, 0}, {3, 0, 1},
-            {4, 0, 0}, {-1, 0, 0}, {Integer.MAX_VALUE, 1, 0}, {Integer.MIN_VALUE, 1, 0}};
-        for (int[] fault : faults) {
-            PatronHall hall = new PatronHall();
-            Check.asked(hall, 7, Check.GET);
-            refused(hall, 7, 1, fault);
-            refused(hall, 7, 2, fault);
-            refused(hall, 6, 0, fault);
-            check.dueClient(hall, 7, 1, 0, Check.NONE, 0, 1, 1, 60, 1, 0);
-            for (int client : new int[] {-1, 8, Integer.MIN_VALUE, Integer.MAX_VALUE}) {
-                Check.fed(hall, fault[2]);
-                check.dueNoIndex("reply to " + client, () -> hall.reply(client, 1, fault[0], fault[1]));
-                check.due("the tape is empty", hall.count(5), 0);
-                check.dueNoIndex("reply to " + client, () -> hall.reply(client, 1, 3, 0));
+    /** By each who waits, for its number and for another, and by those who are idle: the fault is the reply's own. */
+    private static void refused(int code, int value, int size) {
+        for (int client = 0; client <= 7; client++) {
+            int c = client;
+            int own = Scenes.BUSY.hall().client(c, 4);
+            for (int number : new int[] {own, own + 1}) {
+                Scene replying = Scenes.fedWith(size).then(hall -> hall.reply(c, number, code, value));
+                check.refusedForArgument(call(code, value, size), Scenes.BUSY, replying);
             }
         }
     }
 
-    private static void refused(PatronHall hall, int client, int request, int[] fault) {
-        Check.fed(hall, fault[2]);
-        check.dueNoArgument("reply " + fault[0] + " " + fault[1] + " with " + fault[2],
-                () -> hall.reply(client, request, fault[0], fault[1]));
-        check.due("the tape is empty", hall.count(5), 0);
+    /** "code 0 .., 1 .., 2, 3". */
+    private static void codesAre0To3() {
+        taken(0, 1, 0);
+        taken(1, 1, 0);
+        taken(2, 0, 0);
+        taken(3, 0, 0);
+        for (int code : new int[] {-1, 4, Integer.MIN_VALUE, Integer.MAX_VALUE}) {
+            refused(code, 0, 0);
+            refused(code, 1, 0);
+        }
+    }
+
+    /** "code 0 with a place (1 .. 1000000)". */
+    private static void placesAre1To1000000() {
+        for (int place : new int[] {1, 2, 999999, 1000000}) {
+            taken(0, place, 0);
+            PatronHall hall = Scenes.asked(0, Check.GET).hall();
+            hall.reply(0, 1, 0, place);
+            check.due("the place", hall.history(0, 5), place);
+        }
+        for (int place : new int[] {0, -1, 1000001, Integer.MIN_VALUE, Integer.MAX_VALUE}) {
+            refused(0, place, 0);
+            refused(0, place, 5);
+        }
+    }
+
+    /** "and the tape as the answer (at most 134 bytes)", for OPEN as well, though nobody is told that one. */
+    private static void answerHasAtMost134Bytes() {
+        for (int size : new int[] {0, 1, 133, 134}) {
+            taken(0, 9, size);
+            PatronHall hall = Scenes.asked(0, Check.GET).then(Scenes.fedWith(size)).hall();
+            hall.reply(0, 1, 0, 9);
+            check.due("answer", hall.answer(0), size);
+        }
+        for (int size : new int[] {135, 136, 240}) {
+            refused(0, 9, size);
+        }
+    }
+
+    /** "1 with a server or NONE". */
+    private static void serverOrNone() {
+        for (int server : new int[] {Check.NONE, 0, 1, 5, 6}) {
+            taken(1, server, 0);
+        }
+        for (int server : new int[] {-2, 7, Integer.MIN_VALUE, Integer.MAX_VALUE}) {
+            refused(1, server, 0);
+        }
+    }
+
+    /** "2, 3 (value 0, as for all that is not told)". */
+    private static void valueIs0For2And3() {
+        for (int code = 2; code <= 3; code++) {
+            taken(code, 0, 0);
+            for (int value : new int[] {1, -1, Integer.MIN_VALUE, Integer.MAX_VALUE}) {
+                refused(code, value, 0);
+            }
+        }
+    }
+
+    /** "IllegalArgumentException, when .. the tape (empty but for 0) are not so". */
+    private static void tapeIsEmptyButFor0() {
+        taken(0, 6, 1);
+        for (int size : new int[] {1, 134, 240}) {
+            refused(1, 6, size);
+            refused(1, Check.NONE, size);
+            refused(2, 0, size);
+            refused(3, 0, size);
+        }
+    }
+
+    /** "whether it is for what the client waits for". */
+    private static void whetherItIsForWhatItWaitsFor() {
+        for (int code = 0; code <= 3; code++) {
+            int value = code < 2 ? 1 : 0;
+            for (int number = 2; number <= 4; number++) {
+                PatronHall hall = Scenes.waiting(0, Check.PUT, true).hall();
+                check.due("reply for " + number, hall.reply(0, number, code, value), number == 3);
+            }
+            PatronHall idle = Check.withSession(new PatronHall(), 0, 9);
+            check.due("reply to an idle one", idle.reply(0, 2, code, value), false);
+            check.due("reply to one never asked", idle.reply(1, 0, code, value), false);
+        }
+    }
+
+    /** "IndexOutOfBoundsException, when there is no such client". */
+    private static void noSuchClient() {
+        for (int client : new int[] {0, 7}) {
+            check.due("reply to " + client, Scenes.asked(client, Check.GET).hall().reply(client, 1, 3, 0), true);
+        }
+        for (int client : Check.NO_CLIENTS) {
+            for (int[] good : new int[][] {{0, 1}, {1, 1}, {1, Check.NONE}, {2, 0}, {3, 0}}) {
+                check.refusedForIndex("reply to " + client, Scenes.BUSY,
+                        hall -> hall.reply(client, 1, good[0], good[1]));
+            }
+            Scene answering = Scenes.fedWith(134).then(hall -> hall.reply(client, 1, 0, 1));
+            check.refusedForIndex("answer to " + client, Scenes.BUSY, answering);
+        }
+    }
+
+    /** As the document names the faults. */
+    private static void noSuchClientComesFirst() {
+        for (int client : Check.NO_CLIENTS) {
+            Scene replying = Scenes.fedWith(3).then(hall -> hall.reply(client, 1, 4, 7));
+            check.refusedForIndex("reply of 4 to " + client, Scenes.BUSY, replying);
+        }
     }
 }
