@@ -17,7 +17,7 @@ public final class ClientTest {
     /** "Of a client: 1 if it waits, else 0 (0), TARGET (1), SESSION or NONE (2), .." in every state. */
     private static void whatEachShows() {
         PatronHall hall = Scenes.BUSY.hall();
-        check.dueClient(hall, 0, 0, 0, 70, 1, 3, 1, Check.NONE, 0, 0);
+        check.dueClient(hall, 0, 0, 0, 70, 2, 3, 1, Check.NONE, 0, 0);
         check.dueClient(hall, 1, 1, 0, Check.NONE, 0, 1, 1, 62, 1, 1);
         check.dueClient(hall, 2, 1, 0, 80, 2, 3, 1, 62, 1, 0);
         check.dueClient(hall, 3, 1, 0, Check.NONE, 0, 1, 2, 7, 0, 0);

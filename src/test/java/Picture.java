@@ -3,12 +3,13 @@ import java.util.TreeMap;
 import java.util.function.IntSupplier;
 
 /**
- * All that the looking calls show behind a scene, and again when every client that can be asked was asked and time
- * went on: so it tells too what no call shows at once, as the order in which alarms were made. Each row is looked at on
- * an object of its own, since an object is good for 512 calls only.
+ * All that the looking calls show behind a scene, again when time went on, and again when then every client that can be
+ * asked was asked: so it tells too what no call shows at once, as the order in which alarms were made. Each row is
+ * looked at on an object of its own, since an object is good for 512 calls only.
  */
 final class Picture {
-    private static final Scene LATER = later();
+    private static final Scene LATER = hall -> hall.tick(70);
+    private static final Scene ALL_ASKED = allAsked();
 
     private final Map<String, String> looks = new TreeMap<>();
 
@@ -18,15 +19,16 @@ final class Picture {
         Picture picture = new Picture();
         picture.take("", scene);
         picture.take("later ", scene.then(LATER));
+        picture.take("asked later ", scene.then(LATER).then(ALL_ASKED));
         return picture.looks;
     }
 
-    private static Scene later() {
+    private static Scene allAsked() {
         Scene scene = Scenes.NEW;
         for (int i = 0; i < 8; i++) {
             scene = scene.then(Scenes.asked(7 - i, Check.GET).attempted());
         }
-        return scene.then(hall -> hall.tick(70));
+        return scene;
     }
 
     private void take(String when, Scene scene) {

@@ -5,13 +5,13 @@ final class Scenes {
     static final Scene NEW = hall -> { };
 
     /**
-     * Every client in another state: 0 is idle, in a session, and was told DONE; 1 requests OPEN; 2 waits in a session;
-     * 3 heard that nobody leads; 4 heard that the server is busy; 5 was told UNCLEAR; 6 was told GIVEN UP, in a session;
-     * 7 was never asked.
+     * Every client in another state: 0 is idle, in a session, and its command was DONE; 1 requests OPEN; 2 waits in a
+     * session; 3 heard that nobody leads; 4 heard that the server is busy; 5 was told UNCLEAR; 6 was told GIVEN UP of a
+     * read, in a session; 7 was never asked.
      */
     static final Scene BUSY = hall -> {
         Check.withSession(hall, 0, 70);
-        Check.asked(hall, 0, Check.GET);
+        Check.asked(hall, 0, Check.REMOVE);
         Check.fed(hall, 3).reply(0, 3, 0, 75);
         hall.tick(2);
         Check.asked(hall, 1, Check.PUT);

@@ -54,6 +54,10 @@ public final class TermsAskedTest {
             check.due("reply to OPEN", hall.reply(3, 1, 0, place), true);
             check.dueClient(hall, 3, 1, 0, place, 1, 2, 2, 60, 1, 0);
             check.dueRequest(hall, 0, 3, 0, 2, Check.PUT, place, 1, 1, 0);
+            hall.reply(3, 2, 0, 7);
+            Check.asked(hall, 3, Check.PUT);
+            check.dueClient(hall, 3, 1, 0, place, 2, 3, 1, 60, 1, 0);
+            check.dueRequest(hall, 0, 3, 0, 3, Check.PUT, place, 2, 1, 0);
         }
     }
 

@@ -46,13 +46,18 @@ public final class TermsRequestTest {
     private static void fortiethGoesAndNext() {
         for (int kind = Check.PUT; kind <= Check.NEXT; kind++) {
             for (boolean inSession : new boolean[] {false, true}) {
-                lastTries(kind, inSession, hall -> hall.reply(0, hall.client(0, 4), 1, 3), 3, 3);
-                lastTries(kind, inSession, hall -> hall.tick(60), 1, 2);
+                lastTries(kind, inSession, anotherLeads(3), 3, anotherLeads(5), 5);
+                lastTries(kind, inSession, hall -> hall.tick(60), 1, hall -> hall.tick(60), 2);
             }
         }
     }
 
-    private static void lastTries(int kind, boolean inSession, Scene again, int target40, int target41) {
+    private static Scene anotherLeads(int server) {
+        return hall -> hall.reply(0, hall.client(0, 4), 1, server);
+    }
+
+    /** The target is another one first, and then the tries are looked at: so it is that one when it gave up. */
+    private static void lastTries(int kind, boolean inSession, Scene again40, int target40, Scene again41, int target41) {
         boolean command = Check.isCommand(kind);
         int sentBefore = inSession ? 2 : 0;
         PatronHall hall = Scenes.waiting(0, kind, inSession).then(Scenes.triesUpTo(0, 39)).hall();
@@ -60,13 +65,13 @@ public final class TermsRequestTest {
         int serial = hall.client(0, 3);
         int session = hall.client(0, 2);
         check.due("requests of 39 tries", hall.count(3), sentBefore + 39);
-        again.play(hall);
+        again40.play(hall);
         check.due("it waits", hall.client(0, 0), 1);
         check.due("TRIES", hall.client(0, 5), 40);
         check.due("the 40th goes", hall.count(3), sentBefore + 40);
         check.due("SESSION", hall.client(0, 2), session);
         check.due("TARGET", hall.client(0, 1), target40);
-        again.play(hall);
+        again41.play(hall);
         check.dueClient(hall, 0, 0, target41, command ? Check.NONE : session, serial, number, 41, Check.NONE, 0, 0);
         check.due("no 41st goes", hall.count(3), sentBefore + 40);
         int asking = inSession ? 1 : 0;
